@@ -1,0 +1,151 @@
+import java.lang.reflect.Constructor;
+import java.lang.reflect.Field;
+import java.lang.reflect.Method;
+import java.lang.reflect.Modifier;
+import java.nio.file.Files;
+import java.nio.file.Path;
+import java.util.Arrays;
+import java.util.List;
+import java.util.TreeSet;
+
+/** The public face, no member more or less, and those rules of LANGUAGE.md that a scan can see. */
+public final class FaceTest {
+    private static final Check CHECK = new Check();
+
+    private static final String[] FACE = {
+        "int feed(int,int,int,int,int)", "int ring(int)", "int fault()", "int where()", "int copies(int)",
+        "int error(int,int)", "int cell(int,int)", "int first(int,int)", "int after(int,int,int)",
+        "int many(int,int,int)", "int unlike(int,int,int)", "int trueOnes(int,int)", "int when(int,int,int)",
+        "int areas(int,int,int)", "int largest(int,int,int)", "long scale(int,int,boolean)",
+        "int round(boolean)", "int origin(int,int,int)", "int blame(int,int,int)", "int loop(int)",
+        "int depth(int)", "int strokes(int,int,int,int,int,int)", "int strokeAt(int,int,int,int,int,int,int)",
+        "int ink(int,int,int)", "int judge()", "int fits()", "int fit(int,int)", "int surely(int)",
+        "int rounds(int)", "boolean draw(int,int,int)", "boolean mend(int)", "boolean copy(int,int)",
+        "boolean seed(int)", "boolean undo()", "int keep()", "boolean back(int)", "int led(int)",
+        "int size(int)", "int trouble()"};
+
+    public static void main(String[] args) throws Exception {
+        face();
+        nested();
+        room();
+        source();
+        CHECK.end();
+    }
+
+    private static String sign(Method m) {
+        StringBuilder text = new StringBuilder(m.getReturnType() + " " + m.getName() + "(");
+        for (Class<?> c : m.getParameterTypes()) {
+            text.append(text.charAt(text.length() - 1) == '(' ? "" : ",").append(c);
+        }
+        return text + ")";
+    }
+
+    private static void face() throws Exception {
+        CHECK.part("face");
+        TreeSet<String> want = new TreeSet<>(Arrays.asList(FACE));
+        TreeSet<String> names = new TreeSet<>();
+        for (String text : FACE) {
+            names.add(text.substring(text.indexOf(' ') + 1, text.indexOf('(')));
+        }
+        for (Method m : NineMaps.class.getDeclaredMethods()) {
+            boolean shown = Modifier.isPublic(m.getModifiers());
+            CHECK.due(m + " in the face", want.remove(sign(m)), shown);
+            CHECK.due(m + " private or public", shown || Modifier.isPrivate(m.getModifiers()), true);
+            CHECK.due(m + " private, of a public name", !shown && names.contains(m.getName()), false);
+        }
+        CHECK.due("lacking " + want, want.size(), 0);
+        for (Field f : NineMaps.class.getDeclaredFields()) {
+            boolean shown = f.getName().equals("NONE");
+            CHECK.due(f.toString(), Modifier.isPublic(f.getModifiers()), shown);
+            CHECK.due(f + " private", Modifier.isPrivate(f.getModifiers()), !shown);
+            CHECK.due(f + " static only if final",
+                !Modifier.isStatic(f.getModifiers()) || Modifier.isFinal(f.getModifiers()), true);
+        }
+        CHECK.due("NONE", NineMaps.NONE, -1);
+        Constructor<?>[] made = NineMaps.class.getDeclaredConstructors();
+        CHECK.due("constructors", made.length, 1);
+        CHECK.due("its parameters", made[0].getParameterCount(), 0);
+        CHECK.due("public constructor", Modifier.isPublic(made[0].getModifiers()), true);
+        CHECK.due("final class", Modifier.isFinal(NineMaps.class.getModifiers()), true);
+    }
+
+    private static void nested() {
+        CHECK.part("classes inside");
+        Class<?>[] inside = NineMaps.class.getDeclaredClasses();
+        CHECK.due("twelve classes at most", inside.length <= 12, true);
+        for (Class<?> c : inside) {
+            CHECK.due(c + " static", Modifier.isStatic(c.getModifiers()), true);
+            CHECK.due(c + " hidden", (c.getModifiers() & (Modifier.PUBLIC | Modifier.PROTECTED)) == 0, true);
+            int fields = 0;
+            for (Field f : c.getDeclaredFields()) {
+                fields += Modifier.isStatic(f.getModifiers()) ? 0 : 1;
+            }
+            CHECK.due(c + " twenty fields at most", fields <= 20, true);
+            for (Method m : c.getDeclaredMethods()) {
+                CHECK.due(m + " seven parameters at most", m.getParameterCount() <= 7, true);
+            }
+        }
+    }
+
+    private static int[] count(Object o, java.util.IdentityHashMap<Object, Object> met) throws Exception {
+        int[] sum = {0, 0};
+        if (o == null || met.put(o, o) != null) {
+            return sum;
+        }
+        sum[0] = 1;
+        if (o.getClass().isArray()) {
+            int length = java.lang.reflect.Array.getLength(o);
+            sum[1] = length;
+            for (int i = 0; i < length && !o.getClass().getComponentType().isPrimitive(); i++) {
+                add(sum, count(java.lang.reflect.Array.get(o, i), met));
+            }
+            return sum;
+        }
+        for (Field f : o.getClass().getDeclaredFields()) {
+            if (!Modifier.isStatic(f.getModifiers())) {
+                sum[1]++;
+                f.setAccessible(true);
+                if (!f.getType().isPrimitive()) {
+                    add(sum, count(f.get(o), met));
+                }
+            }
+        }
+        return sum;
+    }
+
+    private static void add(int[] sum, int[] more) {
+        sum[0] += more[0];
+        sum[1] += more[1];
+    }
+
+    /** 512 new objects in one run still have room: 600,000 objects, 7.3 million fields and elements. */
+    private static void room() throws Exception {
+        CHECK.part("room");
+        int[] sum = count(new NineMaps(), new java.util.IdentityHashMap<>());
+        System.out.println("a new object: " + sum[0] + " objects, " + sum[1] + " fields and elements");
+        CHECK.due("objects", 512 * sum[0] <= 600_000, true);
+        CHECK.due("fields and elements", 512 * sum[1] <= 7_300_000, true);
+    }
+
+    private static void source() throws Exception {
+        CHECK.part("source");
+        List<String> lines = Files.readAllLines(Path.of("src/main/java/NineMaps.java"));
+        String[] never = {"package ", "catch", "try ", "finally", "synchronized", "assert ", "->", "::", "double ",
+            "float ", "Random", "System.out", "System.nano", "System.current", "equals(", "hashCode", "Exact"};
+        int code = 0;
+        for (String line : lines) {
+            String text = line.strip();
+            if (text.startsWith("*") || text.startsWith("/*") || text.startsWith("//")) {
+                continue;
+            }
+            code++;
+            for (String word : never) {
+                CHECK.due(word + " in: " + text, text.contains(word), false);
+            }
+            for (int i = 0; i < line.length(); i++) {
+                CHECK.due("sign in: " + text, line.charAt(i) >= 32 && line.charAt(i) < 127, true);
+            }
+        }
+        CHECK.due("there is a source", code > 500, true);
+    }
+}
