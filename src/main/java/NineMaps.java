@@ -1441,22 +1441,26 @@ public final class NineMaps {
         }
 
         private void wantSources(int step, int place) {
-            int town = towns[step];
-            int sort = world.errors[PARTS * town];
-            if (sort == ERASE || sort == STAIN) {
-                want(step - 1, place);
-            } else {
-                int from = world.source(town, maps, 0, place, drawn[step]);
-                if (from != NONE) {
-                    want(step - 1, from);
-                }
+            int from = source(step, place);
+            if (from != NONE) {
+                want(step - 1, from);
             }
-            for (int side = 0; sort == STAIN && side < SIDES; side++) {
+            boolean stain = world.errors[PARTS * towns[step]] == STAIN;
+            for (int side = 0; stain && side < SIDES; side++) {
                 int next = world.beside(place, side);
                 if (next != NONE) {
                     want(step - 1, next);
                 }
             }
+        }
+
+        /** As a world's source, but whatever the marks are: stains and erased marks stay in place. */
+        int source(int step, int place) {
+            int sort = world.errors[PARTS * towns[step]];
+            if (sort == ERASE || sort == STAIN) {
+                return place;
+            }
+            return world.source(towns[step], maps, 0, place, drawn[step]);
         }
 
         /** Builds all maps behind the first one: the mark of a place in the last one. */
@@ -1484,10 +1488,6 @@ public final class NineMaps {
             return maps[PLACES * begin + place];
         }
 
-        void setBegin(int place, int mark) {
-            maps[PLACES * begin + place] = mark;
-        }
-
         /** The place of the first map from which the mark of one of the last came; NONE. */
         int sourceOf(int place) {
             int from = place;
@@ -1498,18 +1498,126 @@ public final class NineMaps {
         }
     }
 
+    /**
+     * Drawings in the first map of a chain, 64 tried at once: each bit of a place's mark is held as a
+     * long with a bit for each trial, so that one step over a map builds it for all of them.
+     */
+    private static final class Trials {
+        private static final int MARK_BITS = 3;
+
+        private final Chain chain;
+        private long[] marks = new long[PLACES * MARK_BITS];
+        private long[] next = new long[PLACES * MARK_BITS];
+        private final long[] stained = new long[PLACES];
+
+        Trials(Chain chain) {
+            this.chain = chain;
+        }
+
+        /** All trials have the first map as it is. */
+        void begin() {
+            for (int i = 0; i < chain.counts[chain.begin]; i++) {
+                int place = chain.places[PLACES * chain.begin + i];
+                overlay(marks, place, -1L, chain.beginMark(place));
+            }
+        }
+
+        void put(int trial, int place, int mark) {
+            overlay(marks, place, 1L << trial, mark);
+        }
+
+        /** The trials by which a place of the last map has a mark. */
+        long having(int place, int mark) {
+            for (int step = chain.begin + 1; step <= chain.last; step++) {
+                build(step);
+                long[] built = next;
+                next = marks;
+                marks = built;
+            }
+            return with(place, mark);
+        }
+
+        private void build(int step) {
+            int error = PARTS * chain.towns[step];
+            int sort = chain.world.errors[error];
+            int part = chain.world.errors[error + 1];
+            if (sort == STAIN) {
+                listStained(step - 1, part);
+            }
+            for (int i = 0; i < chain.counts[step]; i++) {
+                int place = chain.places[PLACES * step + i];
+                int from = chain.source(step, place);
+                if (from == NONE) {
+                    overlay(next, place, -1L, part);
+                } else {
+                    System.arraycopy(marks, MARK_BITS * from, next, MARK_BITS * place, MARK_BITS);
+                }
+                if (sort == SWAP) {
+                    int partner = chain.world.errors[error + 2];
+                    overlay(next, place, with(from, part), partner);
+                    overlay(next, place, with(from, partner), part);
+                } else if (sort == ERASE) {
+                    overlay(next, place, with(place, part), 0);
+                } else if (sort == STAIN) {
+                    overlay(next, place, stainedAt(place), part);
+                }
+            }
+        }
+
+        private void listStained(int step, int mark) {
+            for (int i = 0; i < chain.counts[step]; i++) {
+                int place = chain.places[PLACES * step + i];
+                stained[place] = with(place, mark);
+            }
+        }
+
+        private long stainedAt(int place) {
+            long trials = stained[place];
+            for (int side = 0; side < SIDES; side++) {
+                int beside = chain.world.beside(place, side);
+                if (beside != NONE) {
+                    trials |= stained[beside];
+                }
+            }
+            return trials;
+        }
+
+        /** The trials in which a place has a mark. */
+        private long with(int place, int mark) {
+            long trials = -1L;
+            for (int bit = 0; bit < MARK_BITS; bit++) {
+                long row = marks[MARK_BITS * place + bit];
+                trials &= (mark >> bit & 1) != 0 ? row : ~row;
+            }
+            return trials;
+        }
+
+        private static void overlay(long[] map, int place, long trials, int mark) {
+            for (int bit = 0; bit < MARK_BITS; bit++) {
+                int at = MARK_BITS * place + bit;
+                map[at] = (mark >> bit & 1) != 0 ? map[at] | trials : map[at] & ~trials;
+            }
+        }
+    }
+
     /** STROKES, looked for among the places that matter and aren't drawn so already. */
     private static final class StrokeSearch {
+        private static final int AT_ONCE = 64;
+        /** More than are needed for three of 36 places, 64 at once. */
+        private static final int BATCHES = 200;
+
         private final Chain chain;
+        private final Trials trials;
         private final int[] open = new int[PLACES];
         private int openCount = 0;
         final int[] picked = new int[STROKES_MOST];
-        private int stroke = 0;
-        private int goal = 0;
-        private int goalMark = 0;
+        /** Which of the open places are picked, in rising order; and the picks of all trials. */
+        private final int[] pick = new int[STROKES_MOST];
+        private final int[] tried = new int[AT_ONCE * STROKES_MOST];
 
         StrokeSearch(Chain chain) {
             this.chain = chain;
+            this.trials = new Trials(chain);
         }
 
         int fewest(World now, int t, int mark, int u, int place, int due, int n) {
@@ -1519,12 +1627,9 @@ public final class NineMaps {
             if (chain.beginTown() != t) {
                 return NOTHING;
             }
-            stroke = mark;
-            goal = place;
-            goalMark = due;
-            listOpen();
-            for (int count = 1; count <= STROKES_MOST; count++) {
-                if (pick(0, 0, count)) {
+            listOpen(mark);
+            for (int count = 1; count <= STROKES_MOST && count <= openCount; count++) {
+                if (find(count, mark, place, due)) {
                     return count;
                 }
             }
@@ -1532,12 +1637,12 @@ public final class NineMaps {
         }
 
         /** Column by column: so the first pick found is the first of its length. */
-        private void listOpen() {
+        private void listOpen(int mark) {
             openCount = 0;
             for (int column = 0; column < SIDE; column++) {
                 for (int row = 0; row < SIDE; row++) {
                     int place = SIDE * row + column;
-                    if (chain.matters(place) && chain.beginMark(place) != stroke) {
+                    if (chain.matters(place) && chain.beginMark(place) != mark) {
                         open[openCount] = place;
                         openCount++;
                     }
@@ -1545,19 +1650,52 @@ public final class NineMaps {
             }
         }
 
-        private boolean pick(int from, int have, int count) {
-            if (have >= count || have >= STROKES_MOST) {
-                return chain.build(goal) == goalMark;
+        private boolean find(int count, int mark, int place, int due) {
+            for (int i = 0; i < count; i++) {
+                pick[i] = i;
             }
-            for (int i = from; i < openCount; i++) {
-                int place = open[i];
-                int mark = chain.beginMark(place);
-                chain.setBegin(place, stroke);
-                picked[have] = place;
-                if (pick(i + 1, have + 1, count)) {
+            boolean more = true;
+            for (int batch = 0; batch < BATCHES && more; batch++) {
+                trials.begin();
+                for (int trial = 0; trial < AT_ONCE && more; trial++) {
+                    tryPick(trial, count, mark);
+                    more = goToNextPick(count);
+                }
+                // trials without a pick have nothing drawn, and that is known not to be enough
+                if (takeFirst(trials.having(place, due), count)) {
                     return true;
                 }
-                chain.setBegin(place, mark);
+            }
+            return false;
+        }
+
+        private void tryPick(int trial, int count, int mark) {
+            for (int i = 0; i < count; i++) {
+                int place = open[pick[i]];
+                trials.put(trial, place, mark);
+                tried[STROKES_MOST * trial + i] = place;
+            }
+        }
+
+        private boolean goToNextPick(int count) {
+            for (int i = count - 1; i >= 0; i--) {
+                if (pick[i] < openCount - count + i) {
+                    pick[i]++;
+                    for (int k = i + 1; k < count; k++) {
+                        pick[k] = pick[k - 1] + 1;
+                    }
+                    return true;
+                }
+            }
+            return false;
+        }
+
+        private boolean takeFirst(long good, int count) {
+            for (int trial = 0; trial < AT_ONCE; trial++) {
+                if ((good >>> trial & 1) != 0) {
+                    System.arraycopy(tried, STROKES_MOST * trial, picked, 0, count);
+                    return true;
+                }
             }
             return false;
         }
