@@ -722,8 +722,10 @@ public final class NineMaps {
         }
 
         void makeTrue(int town) {
-            Arrays.fill(errors, PARTS * town, PARTS * (town + 1), NOTHING);
             errors[PARTS * town] = TRUE;
+            for (int part = 1; part < PARTS; part++) {
+                errors[PARTS * town + part] = NOTHING;
+            }
         }
 
         int places() {

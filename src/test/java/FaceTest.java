@@ -40,13 +40,18 @@ public final class FaceTest {
         return text + ")";
     }
 
-    private static void face() throws Exception {
-        CHECK.part("face");
-        TreeSet<String> want = new TreeSet<>(Arrays.asList(FACE));
+    private static TreeSet<String> names() {
         TreeSet<String> names = new TreeSet<>();
         for (String text : FACE) {
             names.add(text.substring(text.indexOf(' ') + 1, text.indexOf('(')));
         }
+        return names;
+    }
+
+    private static void face() throws Exception {
+        CHECK.part("face");
+        TreeSet<String> want = new TreeSet<>(Arrays.asList(FACE));
+        TreeSet<String> names = names();
         for (Method m : NineMaps.class.getDeclaredMethods()) {
             boolean shown = Modifier.isPublic(m.getModifiers());
             CHECK.due(m + " in the face", want.remove(sign(m)), shown);
@@ -83,6 +88,7 @@ public final class FaceTest {
             CHECK.due(c + " twenty fields at most", fields <= 20, true);
             for (Method m : c.getDeclaredMethods()) {
                 CHECK.due(m + " seven parameters at most", m.getParameterCount() <= 7, true);
+                CHECK.due(m + " of a public name", names().contains(m.getName()), false);
             }
         }
     }

@@ -47,6 +47,9 @@ public final class FaultTest {
         fault(1, "^3");
         fault(1, "^rings wide 2");
         fault(1, "^by");
+        fault(1, "^bing wide 2");
+        fault(1, "^rinf wide 2");
+        fault(1, "^rin wide 2");
         fault(1, "^wide 2");
         fault(1, "ring^");
         fault(1, "ring  ^");
@@ -155,6 +158,7 @@ public final class FaultTest {
         fault(2, TOWN + ";copies ^q");
         fault(2, TOWN + ";copies p ^q");
         fault(2, TOWN + ";copies ^pp p by true");
+        fault(2, RING + ";town ab ab,ba;copies ^ba ab by true");
         fault(2, TOWN + ";seen ^q");
         fault(2, TOWN + ";seen ^wide 1");
         fault(2, TOWN + ";copies p ^q by true;town q ab,ba");

@@ -16,6 +16,9 @@ public final class OracleTest {
         for (int run = 0; run < 700; run++) {
             new Run(run).go();
         }
+        for (int run = 0; run < 40; run++) {
+            new Run(run).longRounds();
+        }
         CHECK.end();
     }
 
@@ -300,6 +303,44 @@ public final class OracleTest {
             }
         }
 
+        /** Rings of copying in which it takes long until all comes again, up to 400 and beyond. */
+        void longRounds() {
+            now = new Model();
+            now.wide = 5;
+            now.high = 6;
+            now.marks = 3 + up(4);
+            now.towns = 6;
+            now.copies = new int[] {1, 2, 3, 4, 5, 0};
+            now.errors = new String[] {"stain a", "swap a b", "swap b c", error(3), run % 2 == 0 ? "true" : error(3),
+                run % 3 == 0 ? "true" : error(1)};
+            List<String> lines = new ArrayList<>();
+            lines.add("ring wide 5 high 6 marks " + now.marks);
+            for (int t = 0; t < 6; t++) {
+                now.maps.add(tellTown(t, lines));
+            }
+            for (int t = 0; t < 6; t++) {
+                lines.add("copies " + (char) ('p' + t) + " " + (char) ('p' + now.copies[t]) + " by " + now.errors[t]);
+            }
+            String text = String.join(";", lines);
+            CHECK.part("run " + run + ", " + text);
+            CHECK.due("ring", Check.ring(x, text), 6);
+            callRound();
+            int[] found = comesAgain(5000);
+            int over = found[0] + found[1] - 401;
+            if (found[1] <= 400 && over >= 0) {
+                // go on until it comes again behind 401 rounds from NOW on, and once more
+                for (int i = 0; i <= over; i++) {
+                    now = now.behind(1);
+                    CHECK.due("rounds", x.rounds(1), i + 1);
+                    if (i >= over - 2) {
+                        callRound();
+                    }
+                }
+                CHECK.due("round false, behind 400", x.round(false), found[1]);
+                CHECK.due("round true, behind 400", x.round(true), 400 - found[1]);
+            }
+        }
+
         char mark() {
             return (char) ('a' + up(now.marks));
         }
@@ -316,12 +357,7 @@ public final class OracleTest {
             List<String> lines = new ArrayList<>();
             lines.add("ring wide " + now.wide + " high " + now.high + " marks " + now.marks);
             for (int t = 0; t < now.towns; t++) {
-                Sheet s = new Sheet(now.high, now.wide);
-                for (int p : now.places()) {
-                    s.mark[p % 10][p / 10] = mark();
-                }
-                now.maps.add(s);
-                lines.add("town " + (char) ('p' + t) + " " + s.text());
+                now.maps.add(tellTown(t, lines));
                 now.copies[t] = -2;
                 now.errors[t] = "true";
             }
@@ -329,6 +365,15 @@ public final class OracleTest {
             first = now.same();
             tellGuesses(lines);
             return String.join(";", lines);
+        }
+
+        private Sheet tellTown(int t, List<String> lines) {
+            Sheet s = new Sheet(now.high, now.wide);
+            for (int p : now.places()) {
+                s.mark[p % 10][p / 10] = mark();
+            }
+            lines.add("town " + (char) ('p' + t) + " " + s.text());
+            return s;
         }
 
         private void tellCopies(List<String> lines) {
@@ -572,20 +617,23 @@ public final class OracleTest {
                     return;
                 }
             }
+            int[] found = comesAgain(400);
+            due("round false", x.round(false), found[1], 0);
+            due("round true", x.round(true), found[0], 0);
+        }
+
+        /** Rest and length; -2 if not behind so many. */
+        int[] comesAgain(int most) {
             Map<String, Integer> met = new HashMap<>();
             Model then = now.same();
-            int rest = -2;
-            int length = -2;
-            for (int n = 0; n <= 400 && length == -2; n++) {
+            for (int n = 0; n <= most; n++) {
                 Integer before = met.putIfAbsent(then.allMaps(), n);
                 if (before != null) {
-                    rest = before;
-                    length = n - before;
+                    return new int[] {before, n - before};
                 }
                 then.round();
             }
-            due("round false", x.round(false), length, 0);
-            due("round true", x.round(true), rest, 0);
+            return new int[] {-2, -2};
         }
 
         void callStrokes() {
