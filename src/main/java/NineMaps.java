@@ -450,12 +450,7 @@ public final class NineMaps {
         if (now.towns == 0) {
             return refused(NO_SUCH);
         }
-        for (int i = 0; i < told.seenCount; i++) {
-            if (!fitting.isSo(told, told.begin, i)) {
-                return answered(i);
-            }
-        }
-        return answered(NOTHING);
+        return answered(fitting.firstNotSo(told, told.begin));
     }
 
     public int fits() {
@@ -828,9 +823,10 @@ public final class NineMaps {
                 case BLOT:
                     return column == second && row == errors[PARTS * town + 3] ? NONE : place;
                 case FOLD:
-                    return column < part ? place : SIDE * row + Math.max(0, 2 * part - 1 - column);
+                    int folded = 2 * part - 1 - column;
+                    return column < part ? place : SIDE * row + (folded > 0 ? folded : 0);
                 case SHIFT:
-                    return SIDE * around(row - second, high) + around(column - part, wide);
+                    return shiftSource(column - part, row - second);
                 case TURN:
                     return SIDE * (high - 1 - row) + wide - 1 - column;
                 case STAIN:
@@ -846,24 +842,35 @@ public final class NineMaps {
             }
         }
 
-        private static int around(int number, int length) {
-            return length > 0 ? Math.floorMod(number, length) : 0;
+        private int shiftSource(int column, int row) {
+            if (wide <= 0 || high <= 0) {
+                return NONE;
+            }
+            // what is told is 5 at most: so often the length makes each number one above 0
+            return SIDE * ((row + SIDE * high) % high) + (column + SIDE * wide) % wide;
         }
 
+        /** The same places in the same order as beside, written out to keep calls few. */
         private int stainSource(int[] maps, int model, int place, int mark) {
-            if (maps[model + place] == mark) {
+            int column = place % SIDE;
+            int row = place / SIDE;
+            int at = model + place;
+            if (maps[at] == mark) {
                 return place;
             }
-            for (int side = 0; side < SIDES; side++) {
-                int next = beside(place, side);
-                if (next != NONE && maps[model + next] == mark) {
-                    return next;
-                }
+            if (column > 0 && maps[at - 1] == mark) {
+                return place - 1;
             }
-            return place;
+            if (column < wide - 1 && maps[at + 1] == mark) {
+                return place + 1;
+            }
+            if (row > 0 && maps[at - SIDE] == mark) {
+                return place - SIDE;
+            }
+            return row < high - 1 && maps[at + SIDE] == mark ? place + SIDE : place;
         }
 
-        /** Left, right, above, below, in the order in which a stain looks; NONE off the map. */
+        /** Left, right, above, below; NONE off the map. */
         int beside(int place, int side) {
             int column = place % SIDE;
             int row = place / SIDE;
@@ -975,7 +982,20 @@ public final class NineMaps {
             into.clear();
             take();
             for (int lines = 0; lines <= TAPE; lines++) {
-                if (!readLine()) {
+                int sort = lineSort();
+                if (!mayCome(sort)) {
+                    return false;
+                }
+                take();
+                boolean good;
+                switch (sort) {
+                    case RING_LINE: good = readRing(); break;
+                    case TOWN_LINE: good = readTown(); break;
+                    case COPIES_LINE: good = readCopies(); break;
+                    case GUESS_LINE: good = readGuess(); break;
+                    default: good = readSeen(); break;
+                }
+                if (!good) {
                     return false;
                 }
                 if (kind == END) {
@@ -1008,42 +1028,28 @@ public final class NineMaps {
                 at++;
             }
             behind = at;
-            if (at >= end) {
+            word = 0;
+            while (behind < end && bytes[behind] >= 'a' && bytes[behind] <= 'z') {
+                word = 32 * word + bytes[behind] - 'a' + 1;
+                behind++;
+            }
+            if (behind > at) {
+                kind = behind - at <= 8 ? WORD : NO_TOKEN;
+                return;
+            }
+            whole = 0;
+            while (behind < end && bytes[behind] >= '0' && bytes[behind] <= '9') {
+                whole = 10 * whole + bytes[behind] - '0';
+                behind++;
+            }
+            if (behind > at) {
+                kind = behind - at <= 2 ? WHOLE : NO_TOKEN;
+            } else if (at >= end) {
                 kind = END;
-            } else if (isLetter(bytes[at])) {
-                takeWord();
-            } else if (isDigit(bytes[at])) {
-                takeWhole();
             } else {
                 kind = bytes[at] == ';' ? SEMICOLON : bytes[at] == ',' ? COMMA : NO_TOKEN;
                 behind++;
             }
-        }
-
-        private void takeWord() {
-            word = 0;
-            while (behind < end && isLetter(bytes[behind])) {
-                word = 32 * word + bytes[behind] - 'a' + 1;
-                behind++;
-            }
-            kind = behind - at <= 8 ? WORD : NO_TOKEN;
-        }
-
-        private void takeWhole() {
-            whole = 0;
-            while (behind < end && isDigit(bytes[behind])) {
-                whole = 10 * whole + bytes[behind] - '0';
-                behind++;
-            }
-            kind = behind - at <= 2 ? WHOLE : NO_TOKEN;
-        }
-
-        private static boolean isLetter(int sign) {
-            return sign >= 'a' && sign <= 'z';
-        }
-
-        private static boolean isDigit(int sign) {
-            return sign >= '0' && sign <= '9';
         }
 
         private boolean isWord(String text) {
@@ -1126,29 +1132,18 @@ public final class NineMaps {
                 : NONE;
         }
 
-        private boolean readLine() {
-            int sort = lineSort();
+        private boolean mayCome(int sort) {
+            boolean begun = into.marks > 0;
             if (sort == NONE) {
                 return fail(FORM);
             }
-            boolean begun = into.marks > 0;
             if (sort == RING_LINE && begun) {
                 return fail(TOLD_AGAIN);
-            }
-            if (sort != RING_LINE && !begun) {
-                return fail(LACKS);
             }
             if (isFull(sort)) {
                 return fail(MANY);
             }
-            take();
-            switch (sort) {
-                case RING_LINE: return readRing();
-                case TOWN_LINE: return readTown();
-                case COPIES_LINE: return readCopies();
-                case GUESS_LINE: return readGuess();
-                default: return readSeen();
-            }
+            return sort == RING_LINE || begun || fail(LACKS);
         }
 
         private boolean isFull(int sort) {
@@ -1435,23 +1430,26 @@ public final class NineMaps {
         /** From the places wanted of the last map to those of the first, which is laid down. */
         private void prepare() {
             for (int step = last; step > begin; step--) {
+                boolean stain = world.errors[PARTS * towns[step]] == STAIN;
                 for (int i = 0; i < counts[step]; i++) {
-                    wantSources(step, places[PLACES * step + i]);
+                    int place = places[PLACES * step + i];
+                    int from = source(step, place);
+                    if (from != NONE) {
+                        want(step - 1, from);
+                    }
+                    if (stain) {
+                        wantAround(step - 1, place);
+                    }
                 }
             }
             System.arraycopy(world.cells, PLACES * towns[begin], maps, PLACES * begin, PLACES);
         }
 
-        private void wantSources(int step, int place) {
-            int from = source(step, place);
-            if (from != NONE) {
-                want(step - 1, from);
-            }
-            boolean stain = world.errors[PARTS * towns[step]] == STAIN;
-            for (int side = 0; stain && side < SIDES; side++) {
+        private void wantAround(int step, int place) {
+            for (int side = 0; side < SIDES; side++) {
                 int next = world.beside(place, side);
                 if (next != NONE) {
-                    want(step - 1, next);
+                    want(step, next);
                 }
             }
         }
@@ -1714,9 +1712,15 @@ public final class NineMaps {
             this.chain = chain;
         }
 
-        boolean isSo(Ring told, World from, int i) {
-            int mark = chain.markBehind(from, told.seenTown[i], told.seenPlace[i], told.seenBehind[i]);
-            return mark == told.seenMark[i];
+        /** The first that is seen and isn't so; NOTHING if all is so. */
+        int firstNotSo(Ring told, World from) {
+            for (int i = 0; i < told.seenCount; i++) {
+                int mark = chain.markBehind(from, told.seenTown[i], told.seenPlace[i], told.seenBehind[i]);
+                if (mark != told.seenMark[i]) {
+                    return i;
+                }
+            }
+            return NOTHING;
         }
 
         /** A row is held as one number, the first unknown town's guess its highest digit. */
@@ -1730,7 +1734,7 @@ public final class NineMaps {
             trial.become(told.begin);
             for (int row = 0; row < all; row++) {
                 setGuesses(told, trial, row);
-                if (isAllSo(told, trial)) {
+                if (firstNotSo(told, trial) == NOTHING) {
                     rows[count] = row;
                     count++;
                 }
@@ -1754,15 +1758,6 @@ public final class NineMaps {
                     unknown++;
                 }
             }
-        }
-
-        private boolean isAllSo(Ring told, World trial) {
-            for (int i = 0; i < told.seenCount; i++) {
-                if (!isSo(told, trial, i)) {
-                    return false;
-                }
-            }
-            return true;
         }
 
         int guessIn(Ring told, int row, int unknown) {
