@@ -17,26 +17,12 @@ public final class FaultTest {
         CHECK.end();
     }
 
-    /** A sign ^ stands ahead of the place of the fault, and isn't fed. */
     private static void fault(int number, String marked) {
-        int place = marked.indexOf('^');
-        String text = marked.substring(0, place) + marked.substring(place + 1);
-        CHECK.part(marked);
-        NineMaps x = Check.told(TOWN);
-        CHECK.refused("ring", x, Check.ring(x, text), 4);
-        CHECK.due("fault", x.fault(), number);
-        CHECK.due("where", x.where(), place);
-        CHECK.due("size(3)", x.size(3), 1);
-        CHECK.due("size(11)", x.size(11), 0);
+        CHECK.fault(number, marked);
     }
 
     private static void good(String text, int towns) {
-        CHECK.part(text);
-        NineMaps x = new NineMaps();
-        CHECK.due("ring", Check.ring(x, text), towns);
-        CHECK.due("trouble", x.trouble(), 0);
-        CHECK.due("fault", x.fault(), 0);
-        CHECK.due("where", x.where(), NineMaps.NONE);
+        CHECK.good(text, towns);
     }
 
     private static void form() {

@@ -1,5 +1,3 @@
-import java.util.NoSuchElementException;
-
 /** Each promise of the document, with answers worked out by hand. */
 public final class PromiseTest {
     private static final Check CHECK = new Check();
@@ -51,30 +49,6 @@ public final class PromiseTest {
         return Check.told("ring wide 4 high 3 marks 4;town p abcd,bacc,ddab;town q aaaa,aaaa,aaaa;copies q p by " + error);
     }
 
-    private static String map(NineMaps x, int t, int n) {
-        StringBuilder text = new StringBuilder();
-        for (int row = 0; row < x.size(1); row++) {
-            text.append(row == 0 ? "" : ",");
-            for (int column = 0; column < x.size(0); column++) {
-                text.append((char) ('a' + x.after(t, 10 * column + row, n)));
-            }
-        }
-        return text.toString();
-    }
-
-    private static void dueMap(String what, String got, String want) {
-        CHECK.due(what + " is " + got + ", not " + want + ":", got.equals(want), true);
-    }
-
-    private static boolean ledThrows(NineMaps x, int i) {
-        try {
-            x.led(i);
-        } catch (NoSuchElementException e) {
-            return true;
-        }
-        return false;
-    }
-
     private static void newObject() {
         CHECK.part("promise 1");
         NineMaps x = new NineMaps();
@@ -84,7 +58,7 @@ public final class PromiseTest {
         for (int what = 0; what <= 11; what++) {
             CHECK.due("size " + what, x.size(what), 0);
         }
-        CHECK.due("led", ledThrows(x, 0), true);
+        CHECK.due("led", Check.ledThrows(x, 0), true);
         CHECK.refused("copies", x, x.copies(0), 1);
         CHECK.refused("error", x, x.error(0, 0), 1);
         CHECK.refused("cell", x, x.cell(0, 0), 1);
@@ -153,8 +127,8 @@ public final class PromiseTest {
         CHECK.due("ring of the first bytes", x.ring(n - 6), 2);
         CHECK.due("trouble", x.trouble(), 0);
         CHECK.due("the tape is empty", x.size(11), 0);
-        dueMap("p", map(x, 0, 0), "abc,dca");
-        dueMap("q", map(x, 1, 0), "aaa,bbb");
+        CHECK.dueText("p", Check.map(x, 0, 0), "abc,dca");
+        CHECK.dueText("q", Check.map(x, 1, 0), "aaa,bbb");
         x.draw(0, 0, 1);
         x.rounds(3);
         x.seed(9);
@@ -166,8 +140,8 @@ public final class PromiseTest {
         CHECK.due("KEEPS", x.size(10), 0);
         CHECK.refused("undo", x, x.undo(), 6);
         CHECK.refused("back", x, x.back(0), 1);
-        dueMap("p", map(x, 0, 0), "ab,ba");
-        CHECK.due("nobody is led", ledThrows(x, 0), true);
+        CHECK.dueText("p", Check.map(x, 0, 0), "ab,ba");
+        CHECK.due("nobody is led", Check.ledThrows(x, 0), true);
     }
 
     private static void ringStays() {
@@ -177,10 +151,10 @@ public final class PromiseTest {
         x.seed(77);
         x.keep();
         x.rounds(1);
-        String before = map(x, 0, 0) + map(x, 1, 0) + map(x, 2, 0);
+        String before = Check.map(x, 0, 0) + Check.map(x, 1, 0) + Check.map(x, 2, 0);
         CHECK.refused("ring", x, Check.ring(x, "ring wide 2 high 2 marks 2;town z ab,ba;copies z z by tr"), 4);
         CHECK.due("the tape is empty", x.size(11), 0);
-        dueMap("NOW", map(x, 0, 0) + map(x, 1, 0) + map(x, 2, 0), before);
+        CHECK.dueText("NOW", Check.map(x, 0, 0) + Check.map(x, 1, 0) + Check.map(x, 2, 0), before);
         int[] sizes = {3, 2, 3, 3, 3, 1, 1, 1, 77, 2, 1};
         for (int what = 0; what < sizes.length; what++) {
             CHECK.due("size " + what, x.size(what), sizes[what]);
@@ -287,11 +261,11 @@ public final class PromiseTest {
 
     private static void after(String error, String want) {
         NineMaps x = by(error);
-        dueMap(error + " behind 0", map(x, 1, 0), "aaaa,aaaa,aaaa");
-        dueMap(error + " behind 1", map(x, 1, 1), want);
-        dueMap(error + ", the copied one", map(x, 0, 1), "abcd,bacc,ddab");
+        CHECK.dueText(error + " behind 0", Check.map(x, 1, 0), "aaaa,aaaa,aaaa");
+        CHECK.dueText(error + " behind 1", Check.map(x, 1, 1), want);
+        CHECK.dueText(error + ", the copied one", Check.map(x, 0, 1), "abcd,bacc,ddab");
         x.rounds(1);
-        dueMap(error + ", a round gone by", map(x, 1, 0), want);
+        CHECK.dueText(error + ", a round gone by", Check.map(x, 1, 0), want);
     }
 
     private static void after() {
@@ -315,9 +289,9 @@ public final class PromiseTest {
         after("stretch 9", "aabc,aabc,bbac");
         after("sneeze d", "abdd,bacc,ddab");
         NineMaps x = Check.told(THREE);
-        dueMap("at once", map(x, 0, 1), "aca,bbb");
-        dueMap("at once", map(x, 1, 1), "bab,cba");
-        dueMap("behind two", map(x, 0, 2), "abc,bab");
+        CHECK.dueText("at once", Check.map(x, 0, 1), "aca,bbb");
+        CHECK.dueText("at once", Check.map(x, 1, 1), "bab,cba");
+        CHECK.dueText("behind two", Check.map(x, 0, 2), "abc,bab");
         x.after(0, 0, 60);
         CHECK.due("behind 60", x.trouble(), 0);
         CHECK.refused("after", x, x.after(0, 0, 61), 2);
@@ -331,21 +305,21 @@ public final class PromiseTest {
         CHECK.part("sneezes");
         NineMaps x = Check.told("ring wide 4 high 3 marks 2;town p aaaa,aaaa,aaaa;town q aaaa,aaaa,aaaa;"
             + "town r aaaa,aaaa,aaaa;copies r p by sneeze b;copies q p by sneeze b");
-        dueMap("q, by its number the first", map(x, 1, 1), "aaba,aaaa,aaaa");
-        dueMap("r", map(x, 2, 1), "aaaa,aaaa,baaa");
-        dueMap("q", map(x, 1, 2), "aaaa,aaaa,baaa");
+        CHECK.dueText("q, by its number the first", Check.map(x, 1, 1), "aaba,aaaa,aaaa");
+        CHECK.dueText("r", Check.map(x, 2, 1), "aaaa,aaaa,baaa");
+        CHECK.dueText("q", Check.map(x, 1, 2), "aaaa,aaaa,baaa");
         CHECK.due("only looked at", x.size(8), 0);
         x.rounds(1);
         CHECK.due("SEED", x.size(8), 5624);
-        dueMap("SEED goes on as it is", map(x, 1, 1), "aaaa,aaaa,baaa");
+        CHECK.dueText("SEED goes on as it is", Check.map(x, 1, 1), "aaaa,aaaa,baaa");
         x.seed(65_536);
         x.rounds(1);
         CHECK.due("SEED, two draws", x.size(8), (75 * ((75 * 65_536 + 74) % 65_537) + 74) % 65_537);
         x.mend(1);
         x.seed(0);
-        dueMap("who is mended doesn't draw", map(x, 2, 1), "aaba,aaaa,aaaa");
+        CHECK.dueText("who is mended doesn't draw", Check.map(x, 2, 1), "aaba,aaaa,aaaa");
         NineMaps y = Check.told("ring wide 4 high 3 marks 2;town p aaaa,aaaa,aaaa;copies p p by sneeze b");
-        dueMap("each round draws", map(y, 0, 2), "aaba,aaaa,baaa");
+        CHECK.dueText("each round draws", Check.map(y, 0, 2), "aaba,aaaa,baaa");
     }
 
     private static void many() {
@@ -739,8 +713,8 @@ public final class PromiseTest {
         CHECK.part("promise 30");
         NineMaps x = Check.told(THREE);
         CHECK.due("one", x.rounds(1), 1);
-        dueMap("p", map(x, 0, 0), "aca,bbb");
-        dueMap("r", map(x, 2, 0), "aca,cab");
+        CHECK.dueText("p", Check.map(x, 0, 0), "aca,bbb");
+        CHECK.dueText("r", Check.map(x, 2, 0), "aca,cab");
         CHECK.due("60", x.rounds(60), 61);
         CHECK.refused("rounds", x, x.rounds(0), 2);
         CHECK.refused("rounds", x, x.rounds(61), 2);
@@ -757,7 +731,7 @@ public final class PromiseTest {
         NineMaps x = Check.told(THREE);
         CHECK.due("draw", x.draw(1, 21, 2), true);
         CHECK.due("trouble", x.trouble(), 0);
-        dueMap("q", map(x, 1, 0), "bbb,acc");
+        CHECK.dueText("q", Check.map(x, 1, 0), "bbb,acc");
         CHECK.refused("draw", x, x.draw(1, 21, 2), 5);
         CHECK.refused("draw", x, x.draw(3, 21, 2), 1);
         CHECK.refused("draw", x, x.draw(1, 2, 2), 1);
@@ -765,14 +739,14 @@ public final class PromiseTest {
         CHECK.refused("draw", x, x.draw(1, 21, 3), 1);
         CHECK.refused("draw", x, x.draw(1, 21, -1), 1);
         CHECK.due("acts", x.size(9), 1);
-        dueMap("p behind 1", map(x, 0, 1), "cca,bbb");
+        CHECK.dueText("p behind 1", Check.map(x, 0, 1), "cca,bbb");
     }
 
     private static void mend() {
         CHECK.part("promise 32");
         NineMaps x = Check.told(THREE + ";town s aaa,aaa;town u aaa,aaa;copies u p by unknown");
         CHECK.due("mend", x.mend(0), true);
-        dueMap("p behind 1", map(x, 0, 1), "bbb,aca");
+        CHECK.dueText("p behind 1", Check.map(x, 0, 1), "bbb,aca");
         CHECK.refused("mend again", x, x.mend(0), 5);
         CHECK.refused("one that copies nobody", x, x.mend(3), 5);
         CHECK.due("unknown", x.mend(4), true);
@@ -791,10 +765,10 @@ public final class PromiseTest {
         CHECK.due("whom", x.copies(0), 2);
         CHECK.refused("copy again", x, x.copy(0, 2), 5);
         CHECK.due("itself", x.copy(0, 0), true);
-        dueMap("p behind 1", map(x, 0, 1), "bac,aba");
+        CHECK.dueText("p behind 1", Check.map(x, 0, 1), "bac,aba");
         CHECK.due("one that copied nobody", x.copy(3, 1), true);
         CHECK.due("true", x.error(3, 0), 0);
-        dueMap("s behind 1", map(x, 3, 1), "bbb,aca");
+        CHECK.dueText("s behind 1", Check.map(x, 3, 1), "bbb,aca");
         CHECK.due("how many copy", x.size(4), 4);
         CHECK.refused("copy", x, x.copy(4, 0), 1);
         CHECK.refused("copy", x, x.copy(0, 4), 1);
@@ -833,7 +807,7 @@ public final class PromiseTest {
         CHECK.due("undo the mending", x.undo(), true);
         CHECK.due("undone", x.error(0, 0), 4);
         CHECK.due("undo the rounds", x.undo(), true);
-        dueMap("p", map(x, 0, 0), "aba,cab");
+        CHECK.dueText("p", Check.map(x, 0, 0), "aba,cab");
         CHECK.due("SEED", x.size(8), 3);
         CHECK.due("ROUNDS", x.size(7), 0);
         CHECK.refused("undo", x, x.undo(), 6);
@@ -863,7 +837,7 @@ public final class PromiseTest {
         CHECK.due("keep", x.keep(), 2);
         CHECK.refused("keep", x, x.keep(), 3);
         CHECK.due("back", x.back(0), true);
-        dueMap("p", map(x, 0, 0), "aba,cab");
+        CHECK.dueText("p", Check.map(x, 0, 0), "aba,cab");
         CHECK.due("SEED", x.size(8), 0);
         CHECK.due("ROUNDS", x.size(7), 0);
         CHECK.due("error", x.error(0, 0), 4);
@@ -889,19 +863,19 @@ public final class PromiseTest {
     private static void led() {
         CHECK.part("promise 38");
         NineMaps x = Check.told(THREE);
-        CHECK.due("nobody", ledThrows(x, 0), true);
+        CHECK.due("nobody", Check.ledThrows(x, 0), true);
         x.draw(2, 21, 1);
         CHECK.due("r", x.led(0), 2);
-        CHECK.due("no more", ledThrows(x, 1), true);
+        CHECK.due("no more", Check.ledThrows(x, 1), true);
         x.draw(0, 0, 1);
         CHECK.due("p", x.led(0), 0);
         CHECK.due("r", x.led(1), 2);
-        CHECK.due("no more", ledThrows(x, 2), true);
-        CHECK.due("none such", ledThrows(x, -1), true);
+        CHECK.due("no more", Check.ledThrows(x, 2), true);
+        CHECK.due("none such", Check.ledThrows(x, -1), true);
         x.draw(2, 21, 0);
-        CHECK.due("r is as FIRST again", ledThrows(x, 1), true);
+        CHECK.due("r is as FIRST again", Check.ledThrows(x, 1), true);
         CHECK.refused("copies", x, x.copies(9), 1);
-        ledThrows(x, 9);
+        Check.ledThrows(x, 9);
         x.led(0);
         CHECK.due("led leaves trouble alone", x.trouble(), 1);
     }
