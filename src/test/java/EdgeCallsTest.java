@@ -310,6 +310,15 @@ public final class EdgeCallsTest {
         CHECK.refused("a town of the large one", x, x.copies(1), 1);
         CHECK.due("ring", Check.ring(x, SIX), 6);
         CHECK.dueText("as of a new object", all(x), all(six()));
+        // what FITS is of this RING, not of the one ahead of it
+        String unknown = TOWN + ";copies p p by unknown;guess true;guess turn";
+        CHECK.due("ring", Check.ring(x, unknown), 1);
+        CHECK.due("fits", x.fits(), 2);
+        CHECK.due("ring", Check.ring(x, unknown + ";guess fold 1;seen p 1 0 0 a;seen p 1 1 0 a"), 1);
+        CHECK.due("fits", x.fits(), 1);
+        CHECK.due("fit", x.fit(0, 0), 2);
+        CHECK.refused("ring", x, Check.ring(x, unknown + ";"), 4);
+        CHECK.due("refused by 4, FITS stays", x.surely(0), 2);
     }
 
     private static void faultBehindEachRing() {
@@ -690,6 +699,11 @@ public final class EdgeCallsTest {
         CHECK.due("one row", x.fits(), 1);
         CHECK.due("its guess", x.fit(0, 0), 0);
         CHECK.due("surely", x.surely(0), 0);
+        x = Check.told(TOWN + ";town q aa,aa;copies p p by unknown;copies q p by unknown;guess true;guess swap a b;"
+            + "seen p 1 0 0 b;seen q 2 0 0 b");
+        CHECK.due("the first town is unknown, too", x.fits(), 1);
+        CHECK.due("its guess", x.surely(0), 1);
+        CHECK.due("the other one's", x.surely(1), 0);
     }
 
     private static void fitsAsTold() {
@@ -729,16 +743,16 @@ public final class EdgeCallsTest {
 
     // ---- 30 to 37
 
-    private static void acts(String name, Act act, int low, int high, int trouble, int kept) {
-        int[] taken = {low, high};
-        for (int n : taken) {
+    /** What is done from low to high, and refused below least and above high; what lies between is so already. */
+    private static void acts(String name, Act act, int least, int low, int high, int trouble, int kept) {
+        for (int n = low; n <= high; n += Math.max(1, (high - low) / 8)) {
             NineMaps x = six();
             x.undo();
             CHECK.due(name + " of " + n, act.does(x, n), true);
             CHECK.due(name + " of " + n + ", trouble()", x.trouble(), 0);
             CHECK.due(name + " of " + n + ", ACTS", x.size(9), kept);
         }
-        int[] beyond = {low - 1, high + 1, -2, Integer.MIN_VALUE, Integer.MAX_VALUE};
+        int[] beyond = {least - 1, high + 1, -2, Integer.MIN_VALUE, Integer.MAX_VALUE};
         for (int n : beyond) {
             NineMaps x = six();
             String before = all(x);
@@ -774,8 +788,8 @@ public final class EdgeCallsTest {
 
     private static void drawIsSoAlready() {
         CHECK.part("promise 31");
-        acts("draw, t", (x, t) -> x.draw(t, 42, 2 - x.cell(t, 42) / 2 * 2), 0, 5, 1, 1);
-        acts("draw, mark", (x, mark) -> x.draw(0, 0, mark), 1, 3, 1, 1, 0);
+        acts("draw, t", (x, t) -> x.draw(t, 42, 2 - x.cell(t, 42) / 2 * 2), 0, 0, 5, 1, 1);
+        acts("draw, mark", (x, mark) -> x.draw(0, 0, mark), 0, 1, 3, 1, 1);
         NineMaps x = six();
         for (int place = -12; place < 130; place++) {
             boolean there = place >= 0 && place / 10 < 5 && place % 10 < 3;
@@ -796,7 +810,7 @@ public final class EdgeCallsTest {
 
     private static void mendIsTrueAlready() {
         CHECK.part("promise 32");
-        acts("mend", (x, t) -> x.mend(t), 1, 5, 1, 1, 0);
+        acts("mend", (x, t) -> x.mend(t), 0, 1, 5, 1, 1);
         NineMaps x = six();
         CHECK.refused("one that copies nobody", x, x.mend(0), 5);
         CHECK.due("mend", x.mend(1), true);
@@ -808,26 +822,10 @@ public final class EdgeCallsTest {
         CHECK.refused("told as true", x, x.mend(0), 5);
     }
 
-    /** As acts, but one number below low is refused by another number of trouble, and isn't tried. */
-    private static void acts(String name, Act act, int low, int high, int trouble, int kept, int besides) {
-        for (int n = low; n <= high; n++) {
-            NineMaps x = six();
-            CHECK.due(name + " of " + n, act.does(x, n), true);
-            CHECK.due(name + " of " + n + ", ACTS", x.size(9), kept);
-        }
-        int[] beyond = {besides - 1, high + 1, -2, Integer.MIN_VALUE, Integer.MAX_VALUE};
-        for (int n : beyond) {
-            NineMaps x = six();
-            String before = all(x);
-            CHECK.refused(name + " of " + n, x, act.does(x, n), trouble);
-            CHECK.dueText("all stays", all(x), before);
-        }
-    }
-
     private static void copyItCopiesThatOne() {
         CHECK.part("promise 33");
-        acts("copy, t", (x, t) -> x.copy(t, 5), 0, 5, 1, 1);
-        acts("copy, u", (x, u) -> x.copy(2, u), 0, 5, 1, 1);
+        acts("copy, t", (x, t) -> x.copy(t, 5), 0, 0, 5, 1, 1);
+        acts("copy, u", (x, u) -> x.copy(0, u), 0, 0, 5, 1, 1);
         int[] copied = {-2, 0, 1, 2, 4, 3};
         for (int t = 0; t < 6; t++) {
             NineMaps x = six();
@@ -854,7 +852,7 @@ public final class EdgeCallsTest {
 
     private static void seedBounds() {
         CHECK.part("promise 34");
-        acts("seed", (x, v) -> x.seed(v), 0, 65_536, 2, 0);
+        acts("seed", (x, v) -> x.seed(v), 0, 0, 65_536, 2, 0);
         NineMaps x = six();
         CHECK.due("seed", x.seed(65_536), true);
         CHECK.due("SEED", x.size(8), 65_536);

@@ -13,6 +13,12 @@ public final class EdgeTermsTest {
         + "town s caaac,ccccb,bacca,abcac,cbbbc,bbcab;copies p q by stain c;copies q r by swap b a;"
         + "copies r s by swap b c;copies s p by shift 3 1";
 
+    /** Six towns round, so that it takes over 2,000 ROUNDS until all comes again. */
+    private static final String NEVER = "ring wide 3 high 5 marks 4;town p bbd,bcb,bad,acd,abb;"
+        + "town q ddd,acc,bbc,dcd,baa;town r adc,cad,aac,dac,dad;town s aaa,bca,daa,dcc,dcb;town t caa,cbc,abd,cbc,ccb;"
+        + "town u bda,acb,cac,aad,bdc;copies p q by stain a;copies q r by swap b a;copies r s by swap a c;"
+        + "copies s t by shift 1 1;copies t u by swap d a;copies u p by blot c 1 1";
+
     public static void main(String[] args) {
         allTownsAtOnce();
         trueAndUnknown();
@@ -26,19 +32,24 @@ public final class EdgeTermsTest {
         stretchDownwards();
         sneezeAtItsPlace();
         severalSneezeInOneRound();
+        allSixSneeze();
         seedAt65536();
         aTownThatCopiesItself();
         aTownThatCopiesNobody();
         behindIsFromNowOn();
+        behindIsFromWhatIsNow();
+        theLargestBehindTheMost();
         firstIsAsTold();
         comesAgainAtOnce();
         comesAgainBehind400AtMost();
+        comesAgainNotForLong();
         comesAgainWhateverTheyCopy();
         originOfNone();
         originByAStain();
         blameOnlyOfAnotherMark();
         strokesNoneToThree();
         strokesTheFirstByPlaces();
+        strokesOfManyPlaces();
         strokesOfTheTownThatItComesFrom();
         areasHangBySides();
         inkAtTheEdge();
@@ -126,6 +137,10 @@ public final class EdgeTermsTest {
         becomes("abcdef,aaaaaa", "shift 5 0", "bcdefa,aaaaaa");
         becomes("ab,cd,ef,ab,cd,ef", "shift 0 5", "cd,ef,ab,cd,ef,ab");
         becomes("ab,cd", "shift 5 4", "ba,dc");
+        becomes("ab,cd,ef,ba", "shift 0 5", "ba,ab,cd,ef");
+        becomes("ab,cd,ef,ba,dc", "shift 0 3", "ef,ba,dc,ab,cd");
+        becomes("abcd,aaaa", "shift 5 0", "dabc,aaaa");
+        becomes("abcde,aaaaa", "shift 3 0", "cdeab,aaaaa");
     }
 
     private static void turnAcrossTheMiddle() {
@@ -222,6 +237,25 @@ public final class EdgeTermsTest {
         CHECK.due("r's is the first DRAW", x.cell(2, 20), 1);
     }
 
+    private static void allSixSneeze() {
+        CHECK.part("all six sneeze");
+        StringBuilder text = new StringBuilder("ring wide 6 high 6 marks 6");
+        for (char town = 'p'; town < 'v'; town++) {
+            text.append(";town ").append(town).append(" aaaaaa,aaaaaa,aaaaaa,aaaaaa,aaaaaa,aaaaaa;copies ");
+            text.append(town).append(' ').append(town).append(" by sneeze f");
+        }
+        NineMaps x = Check.told(text.toString());
+        long seed = 0;
+        for (int t = 0; t < 6; t++) {
+            seed = (75 * seed + 74) % 65_537;
+            int place = (int) (seed % 36);
+            CHECK.due("the draw of " + t, x.after(t, place % 6 * 10 + place / 6, 1), 5);
+            CHECK.due("and no other place", x.many(t, 5, 1), 1);
+        }
+        x.rounds(1);
+        CHECK.due("SEED, six DRAWS", x.size(8), seed);
+    }
+
     /** 75 times 65,536 and 74 is one less than 75 times 65,537: so this SEED stays. */
     private static void seedAt65536() {
         CHECK.part("SEED 65,536");
@@ -283,6 +317,46 @@ public final class EdgeTermsTest {
         dueMap("another SEED", x, 0, 1, "cab,aaa,aaa");
     }
 
+    private static void behindIsFromWhatIsNow() {
+        CHECK.part("BEHIND, asked ahead of an ACT and behind it");
+        NineMaps x = Check.told("ring wide 2 high 2 marks 3;town p ca,ba;town q aa,aa;town r aa,aa;town s aa,aa;"
+            + "copies q p by true;copies r q by erase c;copies s q by stain c");
+        CHECK.due("erased", x.after(2, 0, 2), 0);
+        CHECK.due("stained", x.after(3, 10, 2), 2);
+        CHECK.due("many", x.many(3, 2, 2), 3);
+        x.draw(0, 0, 1);
+        CHECK.due("not erased", x.after(2, 0, 2), 1);
+        CHECK.due("not stained", x.after(3, 10, 2), 0);
+        CHECK.due("many", x.many(3, 2, 2), 0);
+        CHECK.due("origin", x.origin(2, 0, 2), 0);
+        x.draw(0, 0, 2);
+        CHECK.due("erased again", x.origin(2, 0, 2), -2);
+        x.mend(2);
+        CHECK.due("mended", x.after(2, 0, 2), 2);
+        x.copy(1, 2);
+        CHECK.due("copied from another one", x.after(2, 0, 2), 0);
+    }
+
+    private static void theLargestBehindTheMost() {
+        CHECK.part("6 wide, 6 high, behind 60");
+        StringBuilder text = new StringBuilder("ring wide 6 high 6 marks 6");
+        for (char town = 'p'; town < 'v'; town++) {
+            text.append(";town ").append(town).append(" faaaaa,aaaaaa,aaaaaa,aaaaaa,aaaaaa,aaaaab;copies ");
+            text.append(town).append(' ').append(town).append(town == 'p' ? " by shift 1 1" : " by stain b");
+        }
+        NineMaps x = Check.told(text.toString());
+        dueMap("round ten times", x, 0, 60, "faaaaa,aaaaaa,aaaaaa,aaaaaa,aaaaaa,aaaaab");
+        dueMap("all stained", x, 5, 60, "bbbbbb,bbbbbb,bbbbbb,bbbbbb,bbbbbb,bbbbbb");
+        CHECK.due("many", x.many(5, 1, 60), 36);
+        CHECK.due("areas", x.areas(5, 1, 60), 1);
+        CHECK.due("largest", x.largest(5, 1, 60), 36);
+        CHECK.due("unlike", x.unlike(4, 5, 60), 0);
+        CHECK.due("trueOnes", x.trueOnes(5, 60), 1);
+        CHECK.due("origin", x.origin(5, 0, 60), 555);
+        CHECK.due("round", x.round(false), 6);
+        CHECK.due("REST", x.round(true), 10);
+    }
+
     private static void firstIsAsTold() {
         CHECK.part("FIRST");
         NineMaps x = Check.told("ring wide 2 high 2 marks 2;town p ab,ba;town q bb,bb;copies q p by turn");
@@ -312,6 +386,10 @@ public final class EdgeTermsTest {
         x = Check.told(TOWN + ";copies p p by blot a 1 0");
         CHECK.due("blotted it isn't what it was", x.round(true), 1);
         CHECK.due("but then", x.round(false), 1);
+        x = Check.told(TOWN + ";copies p p by blot b 0 0");
+        CHECK.due("the first place alone", x.round(true), 1);
+        x = Check.told(TOWN + ";copies p p by blot a 0 1");
+        CHECK.due("the last row alone", x.round(true), 1);
     }
 
     /** Behind how many ROUNDS all first comes again, and how long that is: by going on, map by map. */
@@ -353,6 +431,16 @@ public final class EdgeTermsTest {
         x.rounds(1);
         CHECK.due("REST", x.round(true), 0);
         CHECK.due("ROUND", x.round(false), 360);
+    }
+
+    private static void comesAgainNotForLong() {
+        CHECK.part("COMES AGAIN, not for long");
+        NineMaps x = Check.told(NEVER);
+        CHECK.due("ROUND", x.round(false), -2);
+        CHECK.due("REST", x.round(true), -2);
+        CHECK.due("-2 is no trouble", x.trouble(), 0);
+        int[] found = comesAgain(x);
+        CHECK.due("indeed", found[0] == NONE || found[0] + found[1] > 2000, true);
     }
 
     private static void comesAgainWhateverTheyCopy() {
@@ -468,6 +556,38 @@ public final class EdgeTermsTest {
         CHECK.due("drawn so", x.strokes(0, 1, 4, 11, 0, 4), 0);
     }
 
+    private static void strokesOfManyPlaces() {
+        CHECK.part("STROKES of many places");
+        String row = "aaaaaa,aaaaaa,aaaaaa,aaaaaa,aaaaaa,aaaaaa";
+        // as in the small one, but of twelve places: column 0 stains the left one, and so on
+        NineMaps x = Check.told("ring wide 6 high 6 marks 2;town p " + row + ";town q " + row + ";town r " + row
+            + ";town s " + row + ";town u " + row + ";copies q p by blot a 2 2;copies r q by stain b;"
+            + "copies s r by swap a b;copies u s by stain b");
+        CHECK.due("three of twelve", x.strokes(0, 1, 4, 22, 0, 4), 3);
+        int[] places = {2, 21, 33};
+        for (int i = 0; i < 3; i++) {
+            CHECK.due("the place " + i, x.strokeAt(0, 1, 4, 22, 0, 4, i), places[i]);
+        }
+        // all of the places around must be drawn, whichever way: four are too many
+        x = by("aaaaaa,aacaaa,acacaa,aacaaa,aaaaaa,aaaaaa", "stain c");
+        CHECK.due("four", x.strokes(0, 1, 1, 22, 0, 1), -2);
+        x.draw(0, 32, 0);
+        CHECK.due("three", x.strokes(0, 1, 1, 22, 0, 1), 3);
+        // nothing helps, of the most places and behind the most rounds
+        x = Check.told("ring wide 6 high 6 marks 6;town p " + row + ";town q " + row + ";copies q p by stain b;"
+            + "town r " + row + ";copies r q by stain c;town s " + row + ";copies s r by stain d;"
+            + "town u " + row + ";copies u s by stain e;town v " + row + ";copies v u by stain f");
+        CHECK.due("none of them is an e", x.strokes(0, 3, 5, 33, 4, 12), -2);
+        int mark = 5;
+        CHECK.due("an f", x.strokes(0, mark, 5, 33, mark, 12), 1);
+        CHECK.due("five away at most", x.strokeAt(0, mark, 5, 33, mark, 12, 0), 23);
+        CHECK.due("an e comes from two away", x.strokeAt(0, 4, 5, 33, 4, 12, 0), 23);
+        CHECK.due("a d comes from there, too", x.strokeAt(0, 3, 5, 33, 3, 12, 0), 23);
+        for (int due = 1; due < 6; due++) {
+            CHECK.due("each mark " + due, x.strokes(0, due, 5, 33, due, 12), 1);
+        }
+    }
+
     private static void strokesOfTheTownThatItComesFrom() {
         CHECK.part("STROKES of the town that it comes from");
         NineMaps x = by("aaa,aaa,aaa", "turn");
@@ -512,6 +632,11 @@ public final class EdgeTermsTest {
         dueAreas("bbbbbb,abaaab,abbaab,aaaaab,bbbbbb,baaaaa", 1, 1, 19);
         dueAreas("aaaaaa,aaaaaa,aaaaaa,aaaaaa,aaaaaa,aaaaaa", 0, 1, 36);
         dueAreas("ababab,bababa,ababab,bababa,ababab,bababa", 0, 18, 1);
+        NineMaps x = by("aaab,aaac", "true");
+        CHECK.due("a large one", x.largest(0, 0, 0), 6);
+        CHECK.due("then a small one", x.largest(0, 1, 0), 1);
+        CHECK.due("then none", x.largest(0, 4, 0), 0);
+        CHECK.due("then none", x.areas(0, 4, 0), 0);
     }
 
     private static void inkAtTheEdge() {

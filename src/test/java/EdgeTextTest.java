@@ -91,6 +91,23 @@ public final class EdgeTextTest {
         good(RING + ";town z ab,ba;copies z z by true");
         good(RING + ";town abcdefgh ab,ba;copies abcdefgh abcdefgh by true");
         good(RING + ";town zzzzzzzz ab,ba;town zzzzzzzy ab,ba;town zzzzzzz ab,ba");
+        NineMaps x = good(RING + ";town a ab,ba;town aa ab,ba;town b ab,ba;town bb ab,ba;town ab ab,ba;town ba ab,ba"
+            + ";copies ba ab by true;copies bb aa by true");
+        CHECK.due("a word of the same letters", x.copies(5), 4);
+        CHECK.due("a word of the same letter", x.copies(3), 1);
+        for (String word : new String[] {"bing", "rinf", "sing", "xing", "rin", "rings"}) {
+            fault(1, "^" + word + " wide 2");
+        }
+        for (String word : new String[] {"down", "topn", "xopies", "copiez", "huess", "guest", "teen", "seed"}) {
+            fault(1, TOWN + ";^" + word + " p 1 0 0 a");
+        }
+        for (String word : new String[] {"drue", "trug", "clot", "gold", "thift", "burn", "staim", "rwap"}) {
+            fault(1, TOWN + ";copies p p by ^" + word);
+        }
+        fault(1, TOWN + ";copies p p ^my true");
+        fault(1, "ring ^hide 2");
+        fault(1, "ring wide 2 ^nigh 2");
+        fault(1, "ring wide 2 high 2 ^parks 2");
         fault(1, RING + ";town ^abcdefghi ab,ba");
         fault(1, RING + ";town p ab,ba;copies ^ppppppppp");
         fault(1, TOWN + ";copies p p by ^unknownnn");
@@ -124,6 +141,14 @@ public final class EdgeTextTest {
         fault(1, "^,");
         fault(1, "ring^;");
         fault(1, "ring wide^,2");
+        // where ; or , is due, nothing else stands for it
+        fault(1, RING + " ^2 town p ab,ba");
+        fault(1, RING + "^!town p ab,ba");
+        fault(1, RING + "^,town p ab,ba");
+        fault(1, RING + " ^town p ab,ba");
+        fault(1, RING + ";town p ab ^2 ba");
+        fault(1, RING + ";town p ab^!ba");
+        fault(1, RING + ";town p ab ^ba");
     }
 
     private static void theEmptyText() {
