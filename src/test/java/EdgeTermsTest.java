@@ -540,6 +540,11 @@ public final class EdgeTermsTest {
         CHECK.due("from above", x.strokeAt(0, 2, 1, 22, 2, 1, 0), 12);
         x = by("aaa,baa,aaa", "stain c");
         CHECK.due("of another mark", x.strokeAt(0, 2, 1, 11, 2, 1, 0), 1);
+        // all around 11 must be stained, and it by itself: 11 alone does all of that
+        x = Check.told("ring wide 3 high 3 marks 2;town p aaa,aaa,aaa;town q aaa,aaa,aaa;town r aaa,aaa,aaa;"
+            + "town s aaa,aaa,aaa;copies q p by stain b;copies r q by swap a b;copies s r by stain b");
+        CHECK.due("the only one", x.strokes(0, 1, 3, 11, 0, 3), 1);
+        CHECK.due("the only one", x.strokeAt(0, 1, 3, 11, 0, 3, 0), 11);
         // all around 11 must be stained, but not from 11 itself: 0 and 22 do but for 11; so 0, 1, 22
         x = Check.told("ring wide 3 high 3 marks 2;town p aaa,aaa,aaa;town q aaa,aaa,aaa;town r aaa,aaa,aaa;"
             + "town s aaa,aaa,aaa;town u aaa,aaa,aaa;copies q p by blot a 1 1;copies r q by stain b;"
