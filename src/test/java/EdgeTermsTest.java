@@ -13,6 +13,12 @@ public final class EdgeTermsTest {
         + "town s caaac,ccccb,bacca,abcac,cbbbc,bbcab;copies p q by stain c;copies q r by swap b a;"
         + "copies r s by swap b c;copies s p by shift 3 1";
 
+    /** 416 ROUNDS, and from then on 24 that come again. */
+    private static final String LATE = "ring wide 6 high 5 marks 6;town p bcfcce,dffebd,edfcde,baaccd,afcace;"
+        + "town q bcfffd,fcdfcc,bcfcdf,deffaa,accbec;town r feeafa,bcdafa,fedbca,bbbfec,afbadd;"
+        + "town s dbeaac,aeddfe,ddadae,edbaae,beadba;town t cedfdf,cdaeec,dcfacf,eabded,afecef;"
+        + "town u bbdddd,ebaadf,eddfbf,acfadd,dbeecb;copies p q by stain d;copies q r by shift 0 1;"
+        + "copies r s by swap c e;copies s t by shift 2 1;copies t u by swap a c;copies u p by swap e d";
     /** Six towns round, so that it takes over 2,000 ROUNDS until all comes again. */
     private static final String NEVER = "ring wide 3 high 5 marks 4;town p bbd,bcb,bad,acd,abb;"
         + "town q ddd,acc,bbc,dcd,baa;town r adc,cad,aac,dac,dad;town s aaa,bca,daa,dcc,dcb;town t caa,cbc,abd,cbc,ccb;"
@@ -431,6 +437,18 @@ public final class EdgeTermsTest {
         x.rounds(1);
         CHECK.due("REST", x.round(true), 0);
         CHECK.due("ROUND", x.round(false), 360);
+        // a short ROUND behind a long REST
+        found = comesAgain(Check.told(LATE));
+        CHECK.due("REST in this one", found[0], 416);
+        CHECK.due("ROUND in this one", found[1], 24);
+        x = Check.told(LATE);
+        CHECK.due("behind 440", x.round(true), -2);
+        x.rounds(39);
+        CHECK.due("behind 401", x.round(true), -2);
+        CHECK.due("behind 401", x.round(false), -2);
+        x.rounds(1);
+        CHECK.due("behind 400", x.round(true), 376);
+        CHECK.due("behind 400", x.round(false), 24);
     }
 
     private static void comesAgainNotForLong() {
