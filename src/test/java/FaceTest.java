@@ -28,6 +28,7 @@ public final class FaceTest {
         face();
         nested();
         room();
+        roomOfCalls();
         source();
         CHECK.end();
     }
@@ -131,6 +132,63 @@ public final class FaceTest {
         System.out.println("a new object: " + sum[0] + " objects, " + sum[1] + " fields and elements");
         CHECK.due("objects", 512 * sum[0] <= 600_000, true);
         CHECK.due("fields and elements", 512 * sum[1] <= 7_300_000, true);
+    }
+
+    /** Bytes made by 512 calls: a reader a ring, an exception a led, else nothing. */
+    private static void roomOfCalls() {
+        CHECK.part("room of calls");
+        com.sun.management.ThreadMXBean bean =
+            (com.sun.management.ThreadMXBean) java.lang.management.ManagementFactory.getThreadMXBean();
+        NineMaps x = Check.told("ring wide 6 high 2 marks 3;town p abcabc,aaaaaa;town q aaaaaa,aaaaaa;"
+            + "copies p q by stain b;copies q p by unknown;guess turn;guess erase c;seen q 20 1 1 a");
+        long made = bean.getCurrentThreadAllocatedBytes();
+        for (int i = 0; i < 512; i++) {
+            askAll(x, i);
+        }
+        made = bean.getCurrentThreadAllocatedBytes() - made;
+        CHECK.due("bytes of 512 calls of each sort: " + made, made < 512 * 100, true);
+        made = bean.getCurrentThreadAllocatedBytes();
+        for (int i = 0; i < 512; i++) {
+            x.feed(i, i, i, i, i);
+            x.ring(20);
+        }
+        made = bean.getCurrentThreadAllocatedBytes() - made;
+        CHECK.due("bytes of 512 rings: " + made, made < 512 * 400, true);
+    }
+
+    private static void askAll(NineMaps x, int i) {
+        x.copies(0);
+        x.error(1, 0);
+        x.after(0, 11, i % 61);
+        x.many(0, 1, i % 61);
+        x.unlike(0, 1, i % 61);
+        x.trueOnes(0, i % 61);
+        x.when(0, 0, 2);
+        x.areas(0, 1, i % 61);
+        x.largest(0, 1, i % 61);
+        x.scale(0, i % 13, true);
+        x.round(true);
+        x.origin(0, 11, i % 61);
+        x.blame(0, 11, i % 61);
+        x.loop(0);
+        x.depth(0);
+        x.strokes(0, 2, 1, 11, 2, i % 13);
+        x.strokeAt(0, 2, 1, 11, 2, i % 13, 0);
+        x.ink(0, 11, 2);
+        x.judge();
+        x.fits();
+        x.fit(0, 1);
+        x.surely(1);
+        x.rounds(1);
+        x.draw(0, 0, i % 3);
+        x.mend(i % 2);
+        x.copy(0, i % 2);
+        x.seed(i);
+        x.keep();
+        x.back(i % 3);
+        x.undo();
+        x.size(i % 13);
+        x.trouble();
     }
 
     private static void source() throws Exception {

@@ -274,6 +274,13 @@ public final class OracleTest {
     }
 
     static final class Run {
+        /** Each is faulty at its end, behind much that is good. */
+        private static final String[] RUBBISH = {
+            "ring wide 6 high 2 marks 6;town z aaaaaa,ffffff;copies z z by unknown;guess stain f;seen z 1 0 0 b;",
+            "ring wide 2 high 6 marks 2;town y ab,ba,ab,ba,ab,ba;town p bb,bb,bb,bb,bb,bb;copies p y by sneeze b;guess turn;"
+                + "guess true;seen y 1 1 1 b;copies y p by fold 2",
+            "ring wide 3 high 3 marks 3", "ring", ""};
+
         final Random random;
         final int run;
         NineMaps x = new NineMaps();
@@ -294,11 +301,30 @@ public final class OracleTest {
             return random.nextInt(below);
         }
 
+        /** Two rings on one object, with a faulty text between them, by which the first one stays. */
         void go() {
+            goOnByANewRing(50);
+            if (run % 2 == 0) {
+                String text = RUBBISH[up(RUBBISH.length)];
+                CHECK.due("faulty ring", Check.ring(x, text), -1);
+                CHECK.due("faulty ring, trouble()", x.trouble(), 4);
+                for (int i = 0; i < 20; i++) {
+                    call();
+                }
+            }
+            goOnByANewRing(25);
+        }
+
+        private void goOnByANewRing(int calls) {
+            guesses = new ArrayList<>();
+            seen = new ArrayList<>();
+            olds = new ArrayList<>();
+            keeps = new ArrayList<>();
+            rows = null;
             String text = tell();
             CHECK.part("run " + run + ", " + text);
             CHECK.due("ring", Check.ring(x, text), now.towns);
-            for (int i = 0; i < 70; i++) {
+            for (int i = 0; i < calls; i++) {
                 call();
             }
         }
@@ -417,7 +443,7 @@ public final class OracleTest {
             }
             for (int i = up(5); i > 0; i--) {
                 int t = up(now.towns);
-                int n = 1 + up(6);
+                int n = 1 + up(up(3) == 0 ? 20 : 6);
                 int p = now.places().get(up(now.wide * now.high));
                 char mark = up(3) == 0 ? mark() : first.behind(n).maps.get(t).at(p);
                 seen.add(new int[] {t, n, p, mark});
